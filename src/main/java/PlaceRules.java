@@ -719,13 +719,14 @@ public final class PlaceRules {
             return next >= signCount || readSign(LINE_FEED);
         }
 
-        /** Leaves a digit that can't belong to the number standing: what should follow is then missed there. */
+        /** Only what is a number, with all the digits that stand together, can be out of range. */
         private boolean readNumber(int least, int most) {
             int first = next;
             value = 0;
-            for (int digits = 0; digits < MOST_DIGITS && isDigit(nextSign()); digits++) {
-                if (digits > 0 && value == 0) {
-                    break;
+            for (int digits = 0; digits <= MOST_DIGITS && isDigit(nextSign()); digits++) {
+                boolean behindZero = digits > 0 && value == 0;
+                if (behindZero || digits == MOST_DIGITS) {
+                    return fail(next);
                 }
                 value = value * 10 + nextSign() - '0';
                 next++;

@@ -168,7 +168,7 @@ final class Model {
         return came.size();
     }
 
-    /** The least sign that no line could have there, or at which a number out of range begins; -1 if none. */
+    /** The least sign that no line could have there, or at which a whole number out of range begins; -1 if none. */
     private static int firstWrong(String line, boolean ended) {
         int viable = 0;
         while (viable < line.length() && canBegin(line.substring(0, viable + 1))) {
@@ -187,7 +187,8 @@ final class Model {
                 least = LEAST[kind];
                 most = MOST[kind];
             }
-            if (value < least || value > most) {
+            boolean whole = numbers.end() == line.length() || !Character.isDigit(line.charAt(numbers.end()));
+            if (whole && (value < least || value > most)) {
                 return numbers.start();
             }
         }

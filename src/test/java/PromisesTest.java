@@ -161,6 +161,10 @@ public final class PromisesTest {
         check.throwing("no room", NO_ROOM, () -> x.unit(0, 0, 0));
         check.throwing("a wrong number before no room", ARGUMENT, () -> x.unit(0, 0, 8));
         check.due("what is refused makes no unit", 40, x.count(1));
+        x.limit(11, 100000, 1);
+        check.due("the last unit is put", 0, x.put(39, 11, 0));
+        check.due("the last unit is there", 39, x.at(11, 0));
+        check.due("no unit behind it", -1, x.at(11, 1));
     }
 
     private void promise5Size() {
@@ -299,6 +303,14 @@ public final class PromisesTest {
             check.due("explain(" + i + ")", refusing[i], x.explain(i));
         }
         check.due("no more", -1, x.explain(refusing.length));
+        PlaceRules z = new PlaceRules();
+        z.unit(0, 0, 0);
+        z.nature(0, 0, 2, 0);
+        check.due("two numbers", 1, read(z, "1 zone 2 5"));
+        check.due("not in zone 5", 1, z.may(0, 0, 0));
+        z.limit(0, 1, 5);
+        check.due("in zone 5", 0, z.may(0, 0, 0));
+        check.due("signs of an earlier text are no part of it", -1 - 4, read(z, "1 zo"));
         PlaceRules y = new PlaceRules();
         read(y, "3 own 1\n3 own 2\n3 own 1\n");
         check.due("clashes come with lines", 3, y.count(3));
@@ -314,6 +326,11 @@ public final class PromisesTest {
         wrongAt(0, "0 own 0");
         wrongAt(0, "101 own 0");
         wrongAt(0, "101");
+        wrongAt(0, "100000 own 0");
+        wrongAt(6, "1000000 own 0");
+        wrongAt(1, "01 own 0");
+        wrongAt(1, "00");
+        wrongAt(9, "1 goods 01");
         wrongAt(1, "1");
         wrongAt(2, "1 ");
         wrongAt(1, "1\n");
@@ -355,7 +372,8 @@ public final class PromisesTest {
         wrongAt(8, "1 goods 21");
         wrongAt(9, "1 weight 100001");
         wrongAt(15, "1 weight 1000000");
-        wrongAt(9, "1 weight 9999999");
+        wrongAt(9, "1 weight 999999");
+        wrongAt(15, "1 weight 9999999");
         wrongAt(10, "1 weight 000001");
     }
 

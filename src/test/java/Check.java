@@ -8,12 +8,21 @@ final class Check {
         void run();
     }
 
+    interface Asked {
+        long answer(PlaceRules x);
+    }
+
     private int wrong;
     private int asked;
     private String part = "";
 
     void part(String name) {
         part = name;
+    }
+
+    /** What follows is a test of this sentence of the document, told with its own words. */
+    void sentence(int promise, String words) {
+        part = "promise " + promise + ", '" + words + "'";
     }
 
     void due(String call, long want, long got) {

@@ -7,18 +7,6 @@ public final class PromisesTest {
     private static final Class<IllegalStateException> STATE = IllegalStateException.class;
     private static final Class<UnsupportedOperationException> NO_ROOM = UnsupportedOperationException.class;
 
-    private static final int SIZE = 0;
-    private static final int WEIGHT = 1;
-    private static final int GOODS = 2;
-    private static final int LOTS = 3;
-    private static final int OWNERS = 4;
-    private static final int HAZARD = 5;
-    private static final int ZONE = 6;
-    private static final int UNITS = 7;
-    private static final int DATES = 8;
-    private static final int DAYS = 9;
-    private static final int OWN = 10;
-
     private final Check check = new Check();
 
     public static void main(String[] args) {
@@ -65,7 +53,7 @@ public final class PromisesTest {
         x.unit(0, 0, 0);
         check.due("may(0, 0, 0) without rules", 0, x.may(0, 0, 0));
         for (int k = 0; k <= 3; k++) {
-            x.rule(1, OWN, k, 0);
+            x.rule(1, Kinds.OWN, k, 0);
         }
         check.due("own rules say yes", 0, x.may(0, 0, 0));
         check.due("a new object knows nothing of another", 0, new PlaceRules().count(0));
@@ -103,8 +91,8 @@ public final class PromisesTest {
         PlaceRules x = new PlaceRules();
         x.unit(0, 0, 0);
         x.size(0, 1, 1, 1, 100000);
-        x.rule(1, WEIGHT, 0, 0);
-        x.rule(2, ZONE, 0, 0);
+        x.rule(1, Kinds.WEIGHT, 0, 0);
+        x.rule(2, Kinds.ZONE, 0, 0);
         check.due("100000 grams and zone 0 at first", 0, x.may(0, 11, 0));
         x.size(0, 1, 1, 1, 100001);
         check.due("above the first limit", 1, x.may(0, 11, 0));
@@ -136,17 +124,17 @@ public final class PromisesTest {
         x.place(0, 99, 100, 100);
         check.due("not less", -1, x.turned(0, 0));
         x.limit(0, 1000, 0);
-        x.rule(1, WEIGHT, 0, 0);
+        x.rule(1, Kinds.WEIGHT, 0, 0);
         check.due("1000 grams", 0, x.may(0, 0, 0));
         x.limit(0, 999, 0);
         check.due("not less grams", 1, x.may(0, 0, 0));
-        x.rule(2, DAYS, 1000, 0);
+        x.rule(2, Kinds.DAYS, 1000, 0);
         check.due("last day 1000", 0, x.may(0, 1, 0));
         check.due("not later", 2, x.may(0, 1, 1));
-        x.rule(3, ZONE, 0, 1);
+        x.rule(3, Kinds.ZONE, 0, 1);
         check.due("class 0", 3, x.may(0, 1, 0));
         x.limit(1, 100000, 1);
-        x.rule(4, HAZARD, 0, 0);
+        x.rule(4, Kinds.HAZARD, 0, 0);
         check.due("put(0, 1, 0)", 0, x.put(0, 1, 0));
         check.due("hazard 0", 4, x.put(1, 1, 0));
         check.throwing("good -1", ARGUMENT, () -> x.unit(-1, 0, 0));
@@ -173,7 +161,7 @@ public final class PromisesTest {
         check.throwing("no unit", NO_SUCH, () -> x.size(0, 0, 0, 0, 0));
         x.unit(0, 0, 0);
         x.unit(0, 0, 0);
-        x.rule(1, WEIGHT, 0, 0);
+        x.rule(1, Kinds.WEIGHT, 0, 0);
         x.size(0, 1, 2, 3, 100001);
         x.place(0, 1, 2, 3);
         check.due("fits as told", 0, x.turned(0, 0));
@@ -209,9 +197,9 @@ public final class PromisesTest {
         check.throwing("no unit", NO_SUCH, () -> x.nature(0, -1, -1, -1));
         x.unit(0, 0, 0);
         x.unit(0, 0, 0);
-        x.rule(1, HAZARD, 7, 0);
-        x.rule(2, ZONE, 7, 5);
-        x.rule(3, DAYS, 10, 0);
+        x.rule(1, Kinds.HAZARD, 7, 0);
+        x.rule(2, Kinds.ZONE, 7, 5);
+        x.rule(3, Kinds.DAYS, 10, 0);
         x.put(1, 0, 0);
         x.nature(0, 7, 7, 9);
         x.may(0, 0, 0);
@@ -235,12 +223,12 @@ public final class PromisesTest {
 
     private void promise7Rule() {
         check.part("promise 7");
-        int[] least = {0, 0, 1, 1, 1, 0, 0, 1, 0, 0, 0};
-        int[] most = {1, 100000, 20, 20, 20, 7, 7, 40, 1000, 1000, 3};
+        int[] least = Kinds.LEAST;
+        int[] most = Kinds.MOST;
         for (int kind = 0; kind <= 10; kind++) {
             PlaceRules x = new PlaceRules();
             int k = kind;
-            boolean two = kind == HAZARD || kind == ZONE;
+            boolean two = Kinds.hasTwoNumbers(kind);
             check.due("least a of kind " + kind, 0, x.rule(1, kind, least[kind], 0));
             check.due("most a of kind " + kind, 1, x.rule(100, kind, most[kind], two ? 7 : 0));
             check.throwing("a too small, kind " + kind, ARGUMENT, () -> x.rule(1, k, least[k] - 1, 0));
@@ -256,10 +244,10 @@ public final class PromisesTest {
         check.throwing("kind 11", ARGUMENT, () -> x.rule(1, 11, 0, 0));
         check.throwing("kind MAX", ARGUMENT, () -> x.rule(1, Integer.MAX_VALUE, 0, 0));
         for (int i = 0; i < 24; i++) {
-            check.due("its number", i, x.rule(5, OWN, 0, 0));
+            check.due("its number", i, x.rule(5, Kinds.OWN, 0, 0));
         }
-        check.throwing("no room", NO_ROOM, () -> x.rule(5, OWN, 0, 0));
-        check.throwing("a wrong number before no room", ARGUMENT, () -> x.rule(5, OWN, 4, 0));
+        check.throwing("no room", NO_ROOM, () -> x.rule(5, Kinds.OWN, 0, 0));
+        check.throwing("a wrong number before no room", ARGUMENT, () -> x.rule(5, Kinds.OWN, 4, 0));
         check.due("no rule came", 24, x.count(0));
     }
 
@@ -286,8 +274,8 @@ public final class PromisesTest {
         check.part("promise 9");
         PlaceRules x = new PlaceRules();
         check.due("nothing collected", 0, x.read());
-        check.due("all kinds", 11, read(x, "11 size 1\n10 weight 100000\n9 goods 20\n8 lots 1\n7 owners 2\n6 hazard 0 7\n"
-                + "5 zone 7 0\n4 units 40\n3 dates 1000\n2 days 0\n1 own 3"));
+        check.due("all kinds", 11, read(x, "11 size 1\n10 weight 100000\n9 goods 20\n8 lots 1\n7 owners 2\n"
+                + "6 hazard 0 7\n5 zone 7 0\n4 units 40\n3 dates 1000\n2 days 0\n1 own 3"));
         check.due("rules are there", 11, x.count(0));
         check.due("nothing is collected then", 0, x.count(4));
         check.due("a line feed behind the last line", 1, read(x, "100 own 2\n"));
@@ -379,7 +367,7 @@ public final class PromisesTest {
 
     private void wrongAt(int sign, String text) {
         PlaceRules x = new PlaceRules();
-        x.rule(1, SIZE, 0, 0);
+        x.rule(1, Kinds.SIZE, 0, 0);
         check.due("read of '" + text.replace("\n", "\\n") + "'", -1 - sign, read(x, text));
         check.due("no rule came of '" + text.replace("\n", "\\n") + "'", 1, x.count(0));
         check.due("no clash came", 0, x.count(3));
@@ -391,7 +379,7 @@ public final class PromisesTest {
         check.part("promise 9, room");
         PlaceRules x = new PlaceRules();
         for (int i = 0; i < 22; i++) {
-            x.rule(1, OWN, 0, 0);
+            x.rule(1, Kinds.OWN, 0, 0);
         }
         check.due("a third line", -1 - 16, read(x, "1 own 0\n1 own 0\n1 own 0"));
         check.due("a third line, whatever stands in it", -1 - 16, read(x, "1 own 0\n1 own 0\nxyz"));
@@ -410,7 +398,7 @@ public final class PromisesTest {
         x.unit(0, 0, 0);
         x.unit(0, 0, 0);
         x.unit(0, 0, 0);
-        x.rule(1, OWN, 3, 0);
+        x.rule(1, Kinds.OWN, 3, 0);
         x.put(1, 0, 0);
         x.put(2, 0, 0);
         x.own(2, 1);
@@ -428,7 +416,7 @@ public final class PromisesTest {
         x.own(3, 3);
         check.due("it fails", 1, x.may(0, 0, 0));
         check.due("told", 1, x.count(5));
-        x.rule(1, OWN, 3, 0);
+        x.rule(1, Kinds.OWN, 3, 0);
         check.due("it fails twice", 1, x.may(0, 0, 0));
         check.due("told as often as asked", 3, x.count(5));
         check.throwing("k -1", ARGUMENT, () -> x.own(-1, 0));
@@ -447,7 +435,7 @@ public final class PromisesTest {
         x.unit(0, 0, 4);
         x.unit(0, 0, 5);
         check.throwing("no rule, before a wrong number", NO_SUCH, () -> x.except(0, 99, 99, -5));
-        x.rule(1, OWN, 0, 0);
+        x.rule(1, Kinds.OWN, 0, 0);
         x.own(0, 3);
         x.except(0, 3, 4, 10);
         check.due("up to that day", 0, x.may(0, 3, 10));
@@ -466,7 +454,7 @@ public final class PromisesTest {
         x.except(0, 7, -1, 0);
         check.due("all owners", 0, x.may(0, 7, 0));
         check.due("all owners, not all places", 1, x.may(0, 8, 0));
-        x.rule(2, OWN, 0, 0);
+        x.rule(2, Kinds.OWN, 0, 0);
         check.due("another rule", 2, x.may(0, 7, 0));
         check.throwing("rule -1", NO_SUCH, () -> x.except(-1, 0, 0, 0));
         check.throwing("rule 2", NO_SUCH, () -> x.except(2, 0, 0, 0));
@@ -493,8 +481,8 @@ public final class PromisesTest {
         PlaceRules x = new PlaceRules();
         x.unit(0, 0, 0);
         x.unit(0, 0, 0);
-        x.rule(2, SIZE, 0, 0);
-        x.rule(1, SIZE, 1, 0);
+        x.rule(2, Kinds.SIZE, 0, 0);
+        x.rule(1, Kinds.SIZE, 1, 0);
         x.size(0, 30, 20, 10, 400);
         int[][] places = {{30, 20, 10, 0}, {20, 30, 10, 0}, {30, 10, 20, 1}, {10, 30, 20, 1}, {20, 10, 30, 1},
             {10, 20, 30, 1}, {29, 29, 29, 2}, {9, 99, 99, 2}, {99, 99, 9, 2}};
@@ -505,7 +493,7 @@ public final class PromisesTest {
         PlaceRules y = new PlaceRules();
         y.unit(0, 0, 0);
         y.unit(0, 0, 0);
-        y.rule(1, WEIGHT, 500, 0);
+        y.rule(1, Kinds.WEIGHT, 500, 0);
         y.limit(0, 2500, 0);
         y.put(1, 0, 0);
         check.due("weight at the limit less a", 0, y.may(0, 0, 0));
@@ -531,9 +519,9 @@ public final class PromisesTest {
         for (int[] u : units) {
             x.unit(u[0], u[1], u[2]);
         }
-        x.rule(1, GOODS, 2, 0);
-        x.rule(2, LOTS, 1, 0);
-        x.rule(3, OWNERS, 1, 0);
+        x.rule(1, Kinds.GOODS, 2, 0);
+        x.rule(2, Kinds.LOTS, 1, 0);
+        x.rule(3, Kinds.OWNERS, 1, 0);
         check.due("alone", 0, x.put(0, 0, 0));
         check.due("a second lot of the good", 2, x.may(1, 0, 0));
         check.due("a second owner, a lot of another good", 3, x.may(2, 0, 0));
@@ -547,7 +535,7 @@ public final class PromisesTest {
         check.due("put(1, 0, 0)", 0, x.put(1, 0, 0));
         check.due("the same good twice is one", 0, x.may(0, 0, 0));
         PlaceRules y = new PlaceRules();
-        y.rule(1, GOODS, 20, 0);
+        y.rule(1, Kinds.GOODS, 20, 0);
         for (int i = 0; i < 21; i++) {
             y.unit(i * 4, 0, 0);
             check.due("the good number " + (i + 1), i < 20 ? 0 : 1, y.put(i, 0, 0));
@@ -560,7 +548,7 @@ public final class PromisesTest {
         for (int i = 0; i < 4; i++) {
             x.unit(0, 0, 0);
         }
-        x.rule(1, HAZARD, 2, 5);
+        x.rule(1, Kinds.HAZARD, 2, 5);
         x.nature(0, 2, 0, 0);
         x.nature(1, 5, 0, 0);
         x.nature(2, 2, 0, 0);
@@ -570,13 +558,13 @@ public final class PromisesTest {
         check.due("another hazard", 0, x.put(3, 0, 0));
         check.due("b alone", 0, x.put(1, 1, 0));
         check.due("b beside a, the other way round", 1, x.may(0, 1, 0));
-        x.rule(2, HAZARD, 2, 2);
+        x.rule(2, Kinds.HAZARD, 2, 2);
         check.due("a is b, alone", 0, x.may(0, 0, 0));
         check.due("a is b, two of it", 2, x.may(2, 0, 0));
 
         PlaceRules y = new PlaceRules();
         y.unit(0, 0, 0);
-        y.rule(1, ZONE, 3, 6);
+        y.rule(1, Kinds.ZONE, 3, 6);
         check.due("another class", 0, y.may(0, 0, 0));
         y.nature(0, 0, 3, 0);
         check.due("the class, not the zone", 1, y.may(0, 0, 0));
@@ -584,7 +572,7 @@ public final class PromisesTest {
         check.due("the class and the zone", 0, y.may(0, 0, 0));
 
         PlaceRules z = new PlaceRules();
-        z.rule(1, UNITS, 2, 0);
+        z.rule(1, Kinds.UNITS, 2, 0);
         for (int i = 0; i < 3; i++) {
             z.unit(0, 0, 0);
             check.due("unit number " + (i + 1), i < 2 ? 0 : 1, z.put(i, 4, 0));
@@ -600,7 +588,7 @@ public final class PromisesTest {
             x.unit(0, 0, 0);
             x.nature(i, 0, 0, last[i]);
         }
-        x.rule(1, DATES, 20, 0);
+        x.rule(1, Kinds.DATES, 20, 0);
         check.due("alone", 0, x.put(0, 0, 0));
         check.due("10 apart", 0, x.put(1, 0, 0));
         check.due("20 apart", 0, x.may(2, 0, 0));
@@ -612,8 +600,8 @@ public final class PromisesTest {
         PlaceRules y = new PlaceRules();
         y.unit(0, 0, 0);
         y.nature(0, 0, 0, 50);
-        y.rule(1, DAYS, 10, 0);
-        y.rule(2, DAYS, 0, 0);
+        y.rule(1, Kinds.DAYS, 10, 0);
+        y.rule(2, Kinds.DAYS, 0, 0);
         check.due("10 behind the day", 0, y.may(0, 0, 40));
         check.due("9 behind the day", 1, y.may(0, 0, 41));
         check.due("not before the day", -1, y.explain(1));
@@ -628,7 +616,7 @@ public final class PromisesTest {
         x.own(0, 1);
         int[] ranks = {50, 100, 1, 50, 2, 1, 100};
         for (int rank : ranks) {
-            x.rule(rank, OWN, 0, 0);
+            x.rule(rank, Kinds.OWN, 0, 0);
         }
         check.due("the least rank, of equal ones the least number", 3, x.may(0, 0, 0));
         int[] order = {2, 5, 4, 0, 3, 1, 6, -1};
@@ -644,9 +632,9 @@ public final class PromisesTest {
         check.throwing("explain(-1)", ARGUMENT, () -> x.explain(-1));
         check.throwing("explain(MIN)", ARGUMENT, () -> x.explain(Integer.MIN_VALUE));
         x.unit(0, 0, 0);
-        x.rule(3, OWN, 0, 0);
-        x.rule(2, OWN, 1, 0);
-        x.rule(1, OWN, 2, 0);
+        x.rule(3, Kinds.OWN, 0, 0);
+        x.rule(2, Kinds.OWN, 1, 0);
+        x.rule(1, Kinds.OWN, 2, 0);
         x.own(0, 1);
         check.due("nothing was asked", -1, x.explain(0));
         x.own(2, 1);
@@ -656,7 +644,7 @@ public final class PromisesTest {
         check.due("explain(2)", -1, x.explain(2));
         check.due("explain(MAX)", -1, x.explain(Integer.MAX_VALUE));
         x.own(2, 0);
-        x.rule(1, OWN, 0, 0);
+        x.rule(1, Kinds.OWN, 0, 0);
         check.due("what was asked last stays", 2, x.explain(0));
         check.throwing("a question that is refused", ARGUMENT, () -> x.may(0, 12, 0));
         check.throwing("a question that is refused", NO_SUCH, () -> x.may(1, 0, 0));
@@ -671,7 +659,7 @@ public final class PromisesTest {
         PlaceRules x = new PlaceRules();
         x.unit(0, 0, 0);
         x.unit(0, 0, 0);
-        x.rule(1, UNITS, 1, 0);
+        x.rule(1, Kinds.UNITS, 1, 0);
         check.throwing("unit -1", NO_SUCH, () -> x.put(-1, 0, 0));
         check.throwing("unit 2, before a wrong place", NO_SUCH, () -> x.put(2, 12, -1));
         check.throwing("place -1", ARGUMENT, () -> x.put(0, -1, 0));
@@ -693,7 +681,7 @@ public final class PromisesTest {
         check.due("to where it was put", 1, x.at(2, 0));
         check.due("explain tells that nothing refused", -1, x.explain(0));
         x.own(0, 3);
-        x.rule(1, OWN, 0, 0);
+        x.rule(1, Kinds.OWN, 0, 0);
         check.throwing("it stands there", STATE, () -> x.put(1, 2, 0));
         check.due("no own rule was asked", 0, x.count(5));
         x.put(1, 0, 0);
@@ -742,7 +730,7 @@ public final class PromisesTest {
         check.throwing("never(-1)", ARGUMENT, () -> x.never(-1));
         x.unit(0, 0, 0);
         for (int k = 0; k < 4; k++) {
-            x.rule(4 - k, OWN, k, 0);
+            x.rule(4 - k, Kinds.OWN, k, 0);
         }
         check.due("never(0) at first", 0, x.never(0));
         check.due("never(3) at first", 3, x.never(3));
@@ -763,7 +751,7 @@ public final class PromisesTest {
         x.own(3, 1);
         x.put(0, 0, 0);
         check.due("put() asks too", -1, x.never(1));
-        x.rule(1, SIZE, 0, 0);
+        x.rule(1, Kinds.SIZE, 0, 0);
         check.due("a new rule", 4, x.never(1));
     }
 
@@ -773,13 +761,13 @@ public final class PromisesTest {
         check.throwing("i -1", ARGUMENT, () -> x.clash(-1, 0));
         check.throwing("side -1", ARGUMENT, () -> x.clash(0, -1));
         check.throwing("side 2", ARGUMENT, () -> x.clash(0, 2));
-        x.rule(5, GOODS, 1, 0);
-        x.rule(5, LOTS, 1, 0);
-        x.rule(6, GOODS, 1, 0);
+        x.rule(5, Kinds.GOODS, 1, 0);
+        x.rule(5, Kinds.LOTS, 1, 0);
+        x.rule(6, Kinds.GOODS, 1, 0);
         check.due("equal rank or kind alone is none", 0, x.count(3));
-        x.rule(5, LOTS, 1, 0);
-        x.rule(5, GOODS, 9, 0);
-        x.rule(5, GOODS, 1, 0);
+        x.rule(5, Kinds.LOTS, 1, 0);
+        x.rule(5, Kinds.GOODS, 9, 0);
+        x.rule(5, Kinds.GOODS, 1, 0);
         int[][] clashes = {{1, 3}, {0, 4}, {0, 5}, {4, 5}};
         for (int i = 0; i < clashes.length; i++) {
             check.due("clash(" + i + ", 0)", clashes[i][0], x.clash(i, 0));
@@ -790,7 +778,7 @@ public final class PromisesTest {
         check.due("count(3)", 4, x.count(3));
         PlaceRules y = new PlaceRules();
         for (int i = 0; i < 24; i++) {
-            y.rule(1, OWN, i % 4, 0);
+            y.rule(1, Kinds.OWN, i % 4, 0);
         }
         check.due("all clashes", 276, y.count(3));
         check.due("the last clash's earlier rule", 22, y.clash(275, 0));
@@ -828,7 +816,7 @@ public final class PromisesTest {
             x.unit(0, 0, 0);
         }
         for (int i = 0; i < 4; i++) {
-            x.rule(1 + i / 3, OWN, 0, 0);
+            x.rule(1 + i / 3, Kinds.OWN, 0, 0);
         }
         x.except(0, 0, 0, 0);
         x.except(0, 0, -1, 0);

@@ -11,6 +11,7 @@ import java.util.Arrays;
 import java.util.List;
 import java.util.Set;
 import java.util.TreeSet;
+import java.util.regex.Matcher;
 import java.util.regex.Pattern;
 import java.util.stream.Collectors;
 
@@ -42,6 +43,12 @@ public final class FaceTest {
         "\\bsynchronized\\b", "Exact\\(", "\\bSystem\\b", "\\bThread\\b", "\\bRandom\\b", "\\bpackage\\b",
         "\\bhashCode\\b", "\\btoString\\b", "\\bdouble\\b", "\\bfloat\\b"};
 
+    private static final Pattern THROWN = Pattern.compile("throw new (IllegalStateException|IllegalArgumentException"
+        + "|UnsupportedOperationException|NoSuchElementException)\\(\"[^\"]+\"\\);");
+    private static final Pattern FIRST_LINE =
+        Pattern.compile("( {4}| {8})(?!if|for|while|switch|do|else|case|return|throw|})[A-Za-z][^=;]*\\([^;]*[){a-z]");
+    private static final int LONGEST_METHOD = 60;
+
     private final Check check = new Check();
 
     public static void main(String[] args) throws IOException {
@@ -49,7 +56,9 @@ public final class FaceTest {
         test.face();
         test.nothingElse();
         test.classesInside();
-        test.source(Files.readString(Path.of("src/main/java/PlaceRules.java")));
+        String source = Files.readString(Path.of("src/main/java/PlaceRules.java"));
+        test.source(source);
+        test.shortMethods(source.lines().toList());
         test.check.end();
     }
 
@@ -130,5 +139,24 @@ public final class FaceTest {
         }
         List<String> imports = code.lines().filter(line -> line.startsWith("import ")).toList();
         check.that("imports are " + imports, imports.equals(List.of("import java.util.NoSuchElementException;")));
+        long thrown = Pattern.compile("\\bthrow\\b").matcher(code).results().count();
+        check.that("each throw has a written text and one of the document's classes",
+            thrown > 0 && thrown == THROWN.matcher(code).results().count());
+    }
+
+    /** A method's last line is the brace that stands as far in as its first line. */
+    private void shortMethods(List<String> lines) {
+        check.part("the source");
+        int found = 0;
+        for (int i = 0; i < lines.size(); i++) {
+            Matcher first = FIRST_LINE.matcher(lines.get(i));
+            if (first.matches()) {
+                found++;
+                int length = lines.subList(i, lines.size()).indexOf(first.group(1) + "}") + 1;
+                check.that(lines.get(i).strip() + " .. has " + length + " lines",
+                    length > 0 && length <= LONGEST_METHOD);
+            }
+        }
+        check.that("methods are found by their first lines: " + found, found > FACE.length);
     }
 }
